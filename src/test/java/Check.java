@@ -1,0 +1,56 @@
+/** Compares answers with what is due, and counts those that differ. */
+final class Check {
+    private int wrong;
+
+    void due(String call, long got, long want) {
+        if (got != want) {
+            wrong++;
+            System.out.println(call + " answered " + got + ", due is " + want);
+        }
+    }
+
+    /** A new object whose TEXT this is. */
+    static KerbQueue written(String text) {
+        KerbQueue queue = new KerbQueue();
+        write(queue, text);
+        return queue;
+    }
+
+    static void write(KerbQueue queue, String text) {
+        for (int i = 0; i < text.length(); i++) {
+            queue.write(text.charAt(i));
+        }
+    }
+
+    /** A new object on which this TEXT was LAID. */
+    KerbQueue laid(String text) {
+        KerbQueue queue = written(text);
+        if (queue.lay() < 1) {
+            wrong++;
+            System.out.println("not laid: " + text);
+        }
+        return queue;
+    }
+
+    /** Who stands in the QUEUE, 0 ahead. */
+    void line(String when, KerbQueue queue, int... persons) {
+        due(when + ": how many in the queue", queue.count(3), persons.length);
+        for (int k = 0; k < 7; k++) {
+            due(when + ": place(" + k + ")", queue.place(k), k < persons.length ? persons[k] : KerbQueue.NONE);
+        }
+    }
+
+    /** DUES of 0, 1, .. */
+    void dues(String when, KerbQueue queue, int... dues) {
+        for (int p = 0; p < dues.length; p++) {
+            due(when + ": person(" + p + ", 6)", queue.person(p, 6), 200000 + dues[p]);
+        }
+    }
+
+    void end() {
+        if (wrong != 0) {
+            System.out.println(wrong + " answers are not as due");
+            System.exit(1);
+        }
+    }
+}
