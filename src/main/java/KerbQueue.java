@@ -858,14 +858,16 @@ public final class KerbQueue {
         // Persons whose dues together are none can clear them with one payment less than they
         // are, so that the fewest payments come from parting all into the most such groups.
         int fewestPayments() {
-            int sets = Math.min(1 << folk.number, groups.length);
-            for (int set = 1; set < sets; set++) {
-                int lowest = Integer.numberOfTrailingZeros(set);
-                int sum = Rows.at(sums, set & (set - 1)) + now.dueOf(lowest);
-                Rows.put(sums, set, sum);
-                Rows.put(groups, set, mostGroupsInParts(set) + (sum == 0 ? 1 : 0));
+            for (int p = 0; p < folk.number; p++) {
+                int due = now.dueOf(p);
+                int bit = 1 << p;
+                for (int set = bit; set < 2 * bit; set++) {
+                    int sum = Rows.at(sums, set - bit) + due;
+                    Rows.put(sums, set, sum);
+                    Rows.put(groups, set, mostGroupsInParts(set) + (sum == 0 ? 1 : 0));
+                }
             }
-            return folk.number - Rows.at(groups, sets - 1);
+            return folk.number - Rows.at(groups, (1 << folk.number) - 1);
         }
 
         private int mostGroupsInParts(int set) {
@@ -903,7 +905,7 @@ public final class KerbQueue {
             number++;
         }
 
-        /** How many orders fit, up to so many; order is the last of these then. */
+        /** How many orders fit; at so many it ends, and order is the last of them. */
         int countOrders(int enough) {
             int fitting = 0;
             boolean more = true;

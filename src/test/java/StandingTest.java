@@ -92,6 +92,9 @@ public final class StandingTest {
         CHECK.due("would() of a SHARP one that has just that", x.would(3), 1);
         CHECK.due("would() of a SHARP one by as much", x.would(5), 0);
         CHECK.due("would() of a SHARP one by less", x.would(6), 0);
+        KerbQueue w = CHECK.laid("p1,5,1,0;p3,6,1,1;p3,7,1,0;");
+        CHECK.due("would() of a SHARP one by one more", w.would(1), 1);
+        CHECK.due("would() of a SHARP one that has none", w.would(2), 0);
         KerbQueue y = CHECK.laid("p1,5,1,0;p3,9,1,4;d1,0,60;");
         CHECK.due("what it owes already is none of that push", y.would(1), 1);
         y.pay(1, 0);
