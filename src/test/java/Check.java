@@ -1,12 +1,34 @@
 /** Compares answers with what is due, and counts those that differ. */
-final class Check {
+class Check {
+    private String about = "";
+    private int done;
     private int wrong;
+
+    /** What the next checks are about: it is told with each answer that differs. */
+    void begin(String what) {
+        about = what + ": ";
+        done = 0;
+    }
+
+    /** How many checks there were since the last beginning. */
+    int done() {
+        return done;
+    }
+
+    int wrong() {
+        return wrong;
+    }
 
     void due(String call, long got, long want) {
         if (got != want) {
-            wrong++;
-            System.out.println(call + " answered " + got + ", due is " + want);
+            fail(call + " answered " + got + ", due is " + want);
         }
+        done++;
+    }
+
+    void fail(String what) {
+        wrong++;
+        System.out.println(about + what);
     }
 
     /** A new object whose TEXT this is. */
@@ -26,8 +48,7 @@ final class Check {
     KerbQueue laid(String text) {
         KerbQueue queue = written(text);
         if (queue.lay() < 1) {
-            wrong++;
-            System.out.println("not laid: " + text);
+            fail("not laid: " + text);
         }
         return queue;
     }

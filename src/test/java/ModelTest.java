@@ -16,19 +16,20 @@ public final class ModelTest {
     }
 
     public static void main(String[] args) {
-        int runs = args.length > 0 ? Integer.parseInt(args[0]) : 400;
+        int runs = args.length > 0 ? Integer.parseInt(args[0]) : 600;
         for (int seed = 0; seed < runs; seed++) {
             new ModelTest(seed).run();
         }
         CHECK.end();
     }
 
+    // An object is used for 512 calls at most: a text and a look at all may come behind the 300th.
     private void run() {
         int calls = 0;
         if (draws.nextInt(8) > 0) {
             calls += layText();
         }
-        while (calls < 400) {
+        while (calls < 300) {
             int turn = draws.nextInt(300);
             if (turn == 0) {
                 calls += layText();
@@ -63,7 +64,7 @@ public final class ModelTest {
     }
 
     private int someone() {
-        return number(0, queue.count(0) - 1);
+        return number(0, model.count(0) - 1);
     }
 
     private int layText() {
@@ -132,7 +133,7 @@ public final class ModelTest {
             due("place(" + k + ")", queue.place(k), model.place(k));
         }
         int calls = 18;
-        for (int p = 0; p < queue.count(0); p++) {
+        for (int p = 0; p < model.count(0); p++) {
             for (int what = 3; what < 7; what++) {
                 due("person(" + p + ", " + what + ")", queue.person(p, what), model.person(p, what));
                 calls++;
@@ -224,7 +225,7 @@ public final class ModelTest {
             case 3 -> due("forget()", queue.forget(), model.forget());
             case 4 -> {
                 int k = number(-1, 6);
-                if (queue.count(3) < 6 || below(6) == 0) {
+                if (model.count(3) < 6 || below(6) == 0) {
                     due("orders(" + k + ")", queue.orders(k), model.orders(k));
                 }
             }
@@ -235,7 +236,7 @@ public final class ModelTest {
     /** Mostly what comes by the order as it stands, so that some orders and kinds fit. */
     private void see(int p) {
         int n = below(3) == 0 ? number(1, 20) : 1 + below(6);
-        int v = below(5) == 0 ? number(0, 400000) : queue.behind(n, p, 1);
+        int v = below(5) == 0 ? number(0, 400000) : model.behind(n, p, 1);
         due("see(" + p + ", " + n + ", " + v + ")", queue.see(p, n, v), model.see(p, n, v));
     }
 
